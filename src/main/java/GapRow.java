@@ -247,10 +247,14 @@ public final class GapRow {
             case DROP:
                 return dropKeys(a, b);
             default:
-                int was = row.mode;
-                row.mode = a;
-                return was;
+                return turnMode(a);
         }
+    }
+
+    private int turnMode(int n) {
+        int was = row.mode;
+        row.mode = n;
+        return was;
     }
 
     private int putKey(int k, int v) {
@@ -376,22 +380,18 @@ public final class GapRow {
         }
 
         private int keyIn(int c) {
-            return within(c, MOST_SIZE - 1) ? keys[c] : NONE;
+            return c >= 0 && c < keys.length ? keys[c] : NONE;
         }
 
         private int valueIn(int c) {
-            return within(c, MOST_SIZE - 1) ? values[c] : NONE;
+            return c >= 0 && c < values.length ? values[c] : NONE;
         }
 
         private void fill(int c, int k, int v) {
-            if (within(c, MOST_SIZE - 1)) {
+            if (c >= 0 && c < keys.length && c < values.length) {
                 keys[c] = k;
                 values[c] = v;
             }
-        }
-
-        private void empty(int c) {
-            fill(c, NONE, 0);
         }
 
         private int cellOf(int k) {
@@ -561,7 +561,7 @@ public final class GapRow {
 
         private int go(Row row, int c) {
             int value = row.valueIn(c);
-            row.empty(c);
+            row.fill(c, NONE, 0);
             int segment = c / SEGMENT_CELLS;
             if (row.keysIn(windowStart(segment, 0), SEGMENT_CELLS) >= row.least(0)) {
                 return value;
@@ -600,7 +600,7 @@ public final class GapRow {
                     values[held] = row.valueIn(c);
                     cellsAhead[held] = c;
                     held++;
-                    row.empty(c);
+                    row.fill(c, NONE, 0);
                 }
             }
         }

@@ -203,15 +203,16 @@ public final class TextsTest {
 
     private static void doesLosesTheOldestOnlyIfDone() {
         GapRow x = new GapRow();
-        for (int k = 1; k <= 5; k++) {
+        // More than 5, so that older STATES have been lost already.
+        for (int k = 1; k <= 7; k++) {
             x.puts(k, k);
         }
-        Due.does(x, "p6 6;t7;");
-        Due.does(x, "p6 6");
+        Due.is("ended", Due.does(x, "p8 8;t9;"), -1001);
+        Due.is("a fault", Due.does(x, "p8 8"), -14);
         for (int left = 4; left >= 0; left--) {
-            x.back();
+            Due.is("back()", x.back(), left);
+            Due.is("count(1)", x.count(1), left + 2);
         }
-        Due.is("the oldest was still there", x.count(1), 0);
     }
 
     private static void told() {
