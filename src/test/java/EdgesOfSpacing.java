@@ -231,7 +231,8 @@ final class EdgesOfSpacing {
     }
 
     private static void doubles() {
-        Doc.says("If none is: SIZE doubles, THE ROW is SPACED as one WINDOW (the KEYS' CELLS ahead being as they were);");
+        Doc.says("If none is: SIZE doubles, THE ROW is SPACED as one WINDOW "
+            + "(the KEYS' CELLS ahead being as they were);");
         GapRow x = Rows.shaped(4, 3, 3, 2);
         // 13 in 32: 0 alone stays.
         Due.is("puts(5, 0)", x.puts(5, 0), 12);
@@ -334,13 +335,16 @@ final class EdgesOfSpacing {
     private static void leastOrMore() {
         Doc.says("the first WINDOW, LEVEL 1 on, with that SEGMENT that has LEAST or more is SPACED (MODE 0);");
         goesBy(Rows.shaped(1, 2, 3, 3), 0, 0, 8, 16);
+        goesBy(Rows.shaped(1, 3, 3, 3), 0, 0, 8, 16);
         goesBy(Rows.shaped(3, 3, 2, 1), 90, 8, 8, 16);
         goesBy(Rows.shaped(1, 1, 2, 1), 0, 0, 16, 16);
+        goesBy(Rows.shaped(1, 1, 3, 3), 0, 0, 16, 16);
         goesBy(Rows.shaped(1, 2, 1, 1), 90, 0, 16, 16);
         // SIZE 32: LEVEL 2 with 4 of 4 and with 3, LEVEL 3 with 9 of 9.
         goesBy(Rows.shaped(1, 1, 2, 1, 3, 3, 3, 3), 0, 0, 16, 32);
         goesBy(Rows.shaped(3, 3, 3, 3, 1, 2, 1, 1), 210, 16, 16, 32);
         goesBy(Rows.shaped(1, 1, 1, 1, 2, 2, 1, 1), 0, 0, 32, 32);
+        goesBy(Rows.shaped(1, 1, 1, 1, 2, 2, 2, 1), 0, 0, 32, 32);
         // SIZE 64: LEVEL 3 with 8 of 8 and with 7, LEVEL 4 with 19 of 19.
         goesBy(Rows.shaped(1, 1, 1, 1, 2, 1, 1, 1, 3, 3, 3, 3, 3, 3, 3, 3), 0, 0, 32, 64);
         goesBy(Rows.shaped(3, 3, 3, 3, 3, 3, 3, 3, 2, 1, 1, 1, 1, 1, 1, 1), 450, 32, 32, 64);

@@ -101,6 +101,12 @@ final class EdgesOfStates {
         Due.is("SIZE is halved", x.count(0), 16);
         x.back();
         Due.holds("SIZE and all is back", ahead.equals(Rows.seenOfRow(x)));
+        GapRow y = new GapRow();
+        y.spaces();
+        y.spaces();
+        y.back();
+        Due.is("LOG: the first", y.log(0, 1), 16);
+        Due.is("LOG: no second", y.log(1, 1), GapRow.NONE);
     }
 
     private static void undone(String what, ToIntFunction<GapRow> call) {

@@ -71,6 +71,8 @@ final class EdgesOfTelling {
         Due.is("both ends are just inside", x.scan(11, 39, 0), 2);
         Due.is("VALUES, both ends", x.scan(10, 40, 1), 2 + 3 + 1 + 2);
         Due.is("VALUES, just inside", x.scan(11, 39, 1), 3 + 1);
+        Due.is("from the first CELL on", x.scan(0, 10, 1), 1 + 2);
+        Due.is("to the last KEY", x.scan(100, 110, 1), 2 + 3);
     }
 
     private static void readCells() {
@@ -109,6 +111,14 @@ final class EdgesOfTelling {
         GapRow y = Rows.shaped(3, 3, 3, 1);
         y.puts(91, 0);
         Due.latest("a WINDOW not at CELL 0", y, 12, 4, 1);
+        y.puts(25, 0);
+        y.puts(55, 0);
+        int[][] due = {{4, 4, 1}, {0, 4, 1}, {12, 4, 1}};
+        for (int i = 0; i < due.length; i++) {
+            for (int what = 0; what <= 2; what++) {
+                Due.is("as they came: log(" + i + ", " + what + ")", y.log(i, what), due[i][what]);
+            }
+        }
     }
 
     private static void value() {

@@ -289,6 +289,22 @@ final class EdgesOfTexts {
         Due.is("MODE stays", x.count(2), 0);
         x.back();
         Due.is("all of them are back", x.count(1), 1);
+        noStateIsLost();
+    }
+
+    /** "no S": with 5 STATES, neither a FAULT nor an ORDER that ends all may cost the oldest. */
+    private static void noStateIsLost() {
+        GapRow x = new GapRow();
+        for (int k = 1; k <= 7; k++) {
+            x.puts(k, k);
+        }
+        Due.is("ends all", Due.does(x, "p8 8;t9;"), -1001);
+        Due.is("a FAULT", Due.does(x, "p8 8"), -14);
+        for (int left = 4; left >= 0; left--) {
+            Due.is("back()", x.back(), left);
+            Due.is("KEYS", x.count(1), left + 2);
+            Due.is("the last KEY", x.key(left + 1), left + 2);
+        }
     }
 
     private static long sum(int... numbers) {
@@ -301,8 +317,8 @@ final class EdgesOfTexts {
 
     private static void digest() {
         Doc.says("`long digest()`: h = 1837; then h = 31 h + v for each v: told(0) to told(4); count(0) to count(6); "
-            + "of each CELL its KEY (NONE), and its VALUE, if it has one; INDEX of each SEGMENT; LOG, the latest first, "
-            + "its CELL, CELLS, MOVES.");
+            + "of each CELL its KEY (NONE), and its VALUE, if it has one; INDEX of each SEGMENT; "
+            + "LOG, the latest first, its CELL, CELLS, MOVES.");
         GapRow x = new GapRow();
         Due.is("new", x.digest(), sum(0, 0, 0, 0, 0, 16, 0, 0, 0, 0, 0, 0,
             N, N, N, N, N, N, N, N, N, N, N, N, N, N, N, N, N, N, N, N));

@@ -106,7 +106,8 @@ public final class LanguageTest {
         String source = Files.readString(Path.of("src/main/java/GapRow.java"));
         String bare = bare(source);
         for (String word : RULED_OUT) {
-            String pattern = Character.isLetter(word.charAt(0)) ? "\\b" + Pattern.quote(word) + "\\b" : Pattern.quote(word);
+            String edge = Character.isLetter(word.charAt(0)) ? "\\b" : "";
+            String pattern = edge + Pattern.quote(word) + edge;
             Due.holds("the source is free of " + word, !Pattern.compile(pattern).matcher(bare).find());
         }
         for (int i = 0; i < source.length(); i++) {

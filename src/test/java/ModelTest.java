@@ -10,8 +10,10 @@ import java.util.regex.Pattern;
 
 /** Long runs of calls against a second telling of the document, built otherwise: maps, copies and a pattern. */
 public final class ModelTest {
-    private static final int RUNS = 1000;
-    private static final int CALLS = 480;
+    private static final int RUNS = 1500;
+    /** An object is used for at most 512 calls; the last step of a run may be a text, of some 125. */
+    private static final int CALLS = 512 - 125;
+    private static final int STEPS_A_DIGEST = 10;
 
     /** A STATE: KEY to {VALUE, CELL}, and what is counted. */
     private static final class State {
@@ -314,6 +316,7 @@ public final class ModelTest {
     private final String run;
     private final int span;
     private final int style;
+    private int calls = 0;
 
     private ModelTest(int seed) {
         random = new Random(seed);
@@ -349,6 +352,7 @@ public final class ModelTest {
     }
 
     private void due(String call, long got, long want) {
+        calls++;
         Due.is(run + ": " + call, got, want);
     }
 
@@ -454,21 +458,21 @@ public final class ModelTest {
     }
 
     private void play() {
-        for (int calls = 0; calls < CALLS;) {
+        for (int step = 1; calls < CALLS; step++) {
             boolean growing = calls / 120 % 2 == 0;
             int pick = num(0, 29);
             if (pick == 0) {
                 aText();
-                calls += 60;
             } else if (pick == 1) {
                 asks();
-                calls += 11;
             } else {
                 change(growing);
-                calls++;
             }
-            due("digest()", x.digest(), digest());
+            if (step % STEPS_A_DIGEST == 0) {
+                due("digest()", x.digest(), digest());
+            }
         }
+        due("digest()", x.digest(), digest());
     }
 
     public static void main(String[] args) {
