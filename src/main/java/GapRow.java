@@ -44,19 +44,23 @@ public final class GapRow {
     // ---- records
 
     public int puts(int k, int v) {
-        return call(PUT, k, v);
+        int refusal = admit(PUT, k, v);
+        return refusal == FINE ? putKey(k, v) : refusal;
     }
 
     public int takes(int k) {
-        return call(TAKE, k, 0);
+        int refusal = admit(TAKE, k, 0);
+        return refusal == FINE ? takeKey(k) : refusal;
     }
 
     public int drops(int a, int b) {
-        return call(DROP, a, b);
+        int refusal = admit(DROP, a, b);
+        return refusal == FINE ? dropKeys(a, b) : refusal;
     }
 
     public int mode(int n) {
-        return call(MODE, n, 0);
+        int refusal = admit(MODE, n, 0);
+        return refusal == FINE ? turnMode(n) : refusal;
     }
 
     public int spaces() {
@@ -207,13 +211,14 @@ public final class GapRow {
 
     // ---- what calls and ORDERS share
 
-    private int call(int kind, int a, int b) {
+    // The STATE has to be left ahead of the change; what follows FINE can not be refused any more.
+    private int admit(int kind, int a, int b) {
         int refusal = refusalOf(kind, a, b);
         if (refusal != FINE) {
             return refuse(refusal);
         }
         states.keep(row);
-        return carryOut(kind, a, b);
+        return FINE;
     }
 
     // Asked ahead of any change, so that neither a call nor an ORDER has to undo half of itself.
@@ -238,16 +243,20 @@ public final class GapRow {
         }
     }
 
-    private int carryOut(int kind, int a, int b) {
+    private void carryOut(int kind, int a, int b) {
         switch (kind) {
             case PUT:
-                return putKey(a, b);
+                putKey(a, b);
+                break;
             case TAKE:
-                return spacer.go(row, row.cellOf(a));
+                takeKey(a);
+                break;
             case DROP:
-                return dropKeys(a, b);
+                dropKeys(a, b);
+                break;
             default:
-                return turnMode(a);
+                turnMode(a);
+                break;
         }
     }
 
@@ -265,6 +274,10 @@ public final class GapRow {
         int was = row.valueIn(found);
         row.fill(found, k, v);
         return was + REPLACED;
+    }
+
+    private int takeKey(int k) {
+        return spacer.go(row, row.cellOf(k));
     }
 
     private int dropKeys(int a, int b) {
@@ -501,7 +514,9 @@ public final class GapRow {
             logFrom[0] = from;
             logCells[0] = cells;
             logMoves[0] = moved;
-            logLength = Math.min(logLength + 1, MOST_LOGGED);
+            if (logLength < MOST_LOGGED) {
+                logLength++;
+            }
             spacings++;
             moves += moved;
         }

@@ -5,6 +5,8 @@ import java.lang.reflect.Modifier;
 import java.nio.file.Files;
 import java.nio.file.Path;
 import java.util.Arrays;
+import java.util.HashMap;
+import java.util.Map;
 import java.util.Set;
 import java.util.TreeSet;
 import java.util.regex.Matcher;
@@ -26,6 +28,8 @@ public final class LanguageTest {
     private static final int MOST_FIELDS = 20;
     private static final int MOST_CLASSES = 12;
     private static final int MOST_PARAMETERS = 7;
+    private static final int MOST_DEPTH = 8;
+    private static final Set<String> NO_CALLS = Set.of("if", "for", "while", "switch", "return", "super", "this");
 
     private static void face() {
         int modifiers = GapRow.class.getModifiers();
@@ -120,22 +124,43 @@ public final class LanguageTest {
         }
         Due.holds("classes: " + classes, classes <= MOST_CLASSES);
         methodLengths(source);
+        callDepths(bodies(bare));
+    }
+
+    /** Each method and constructor by its name, with the lines of its body. */
+    private static Map<String, String> bodies(String source) {
+        Map<String, String> found = new HashMap<>();
+        Pattern form = Pattern.compile("(?ms)^( {4}| {8})(?:public|private) [^=;{}]*?(\\w+)\\([^()]*\\) \\{$(.*?)^\\1\\}");
+        Matcher m = form.matcher(source);
+        while (m.find()) {
+            Due.holds("one method alone is named " + m.group(2), found.put(m.group(2), m.group(3)) == null);
+        }
+        return found;
     }
 
     private static void methodLengths(String source) {
-        int begun = -1;
-        String indent = "";
-        String[] lines = source.split("\n");
-        for (int i = 0; i < lines.length; i++) {
-            Matcher head = Pattern.compile("^( {4}| {8})(?:public|private) [^=;]*\\) \\{$").matcher(lines[i]);
-            if (head.matches()) {
-                begun = i;
-                indent = head.group(1);
-            } else if (begun >= 0 && lines[i].equals(indent + "}")) {
-                Due.holds("lines of" + lines[begun], i - begun + 1 <= MOST_LINES);
-                begun = -1;
+        bodies(source).forEach((name, body) ->
+            Due.holds("lines of " + name, body.split("\n").length + 1 <= MOST_LINES));
+    }
+
+    private static void callDepths(Map<String, String> bodies) {
+        Due.holds("the methods are found", bodies.keySet().containsAll(Set.of("GapRow", "puts", "does", "digest")));
+        for (String name : bodies.keySet()) {
+            int deep = depth(name, bodies, MOST_DEPTH + 1);
+            Due.holds("calls from " + name + " go at most " + MOST_DEPTH + " deep", deep <= MOST_DEPTH);
+        }
+    }
+
+    /** How many calls stand open at once, its own and the library's among them; no further than told. */
+    private static int depth(String name, Map<String, String> bodies, int most) {
+        int below = 0;
+        Matcher calls = Pattern.compile("\\b(\\w+)\\(").matcher(bodies.getOrDefault(name, ""));
+        while (most > 1 && calls.find()) {
+            if (!NO_CALLS.contains(calls.group(1))) {
+                below = Math.max(below, depth(calls.group(1), bodies, most - 1));
             }
         }
+        return 1 + below;
     }
 
     public static void main(String[] args) throws Exception {
